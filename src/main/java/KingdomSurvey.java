@@ -37,9 +37,10 @@ public final class KingdomSurvey {
     private static final int THINGS = 5;
     private static final int OF_VILLAGE = 5;
     private static final int OF_LORD = 6;
-    private static final int DRAFT_ROWS = 7;
     private static final int OF_RETURN = 7;
     private static final int ENTRY_ROWS = 8;
+    /** A draft has no return yet, which is the last that an entry tells. */
+    private static final int DRAFT_ROWS = OF_RETURN;
 
     /** What a return tells, by the numbers that returned() takes. */
     private static final int JURY = 0;
@@ -753,7 +754,6 @@ public final class KingdomSurvey {
         private boolean readText(int n, int jury) {
             written = 0;
             fault = FAULTLESS;
-            faultPlace = NONE;
             behind = 0;
             end = n;
             step();

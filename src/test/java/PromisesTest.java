@@ -76,6 +76,7 @@ public final class PromisesTest {
         for (int what = 0; what <= 6; what++) {
             is("1: count of a new object", x.count(what), 0);
         }
+        is("1: NONE", KingdomSurvey.NONE, -1);
         is("1: trouble", x.trouble(), 0);
         is("1: fault", x.fault(), 0);
         is("1: where", x.where(), NONE);
@@ -808,6 +809,9 @@ public final class PromisesTest {
         is("24: odo without hugh", x.under(0), 1);
         is("25: wace of hugh", x.top(2), 1);
         is("25: emma of odo", x.top(3), 0);
+        x.holds(0, 2);
+        is("24: all are under hugh", x.under(1), 3);
+        is("25: emma of hugh", x.top(3), 1);
         for (int bad : new int[] {-1, 4, LEAST, MOST}) {
             is("24: lord", x.under(bad), NONE);
             is("25: lord", x.top(bad), NONE);
