@@ -231,7 +231,7 @@ public final class BoundsOfTellingTest {
         }
     }
 
-    /** So many villages in all, and the name of one more on the tape. */
+    /** So many villages in all, of which three were there ahead of these. */
     private static Scene villages(int many) {
         Scene scene = TOLD;
         for (int i = 3; i < many; i++) {
@@ -548,7 +548,7 @@ public final class BoundsOfTellingTest {
         Scene good = TOLD.with(x -> Checks.sworn(x, 0, ENTRY));
         Checks.is("9: a refusal by 1 brings none", good.with(x -> x.sworn(9, 0)).made().fault(), 0);
         Checks.is("9: a refusal by 2 brings none", good.with(x -> x.told(0, 9)).made().fault(), 0);
-        Checks.is("9: a lord's fault stays behind a village's", TOLD.with(x -> Checks.village(x, 0, 1, "dale")).made().fault(), 2);
+        Checks.is("9: other calls leave it", TOLD.with(x -> Checks.village(x, 0, 1, "dale")).made().fault(), 2);
         TOLD.answersAndLeavesAll("9: asking changes nothing", 2, KingdomSurvey::fault);
     }
 
