@@ -579,8 +579,9 @@ public final class BoundsOfAskingTest {
 
     private static void raisedAsFarAsItGoes() {
         Scene one = sworn(SETTLED, 0, "in ashby odo has 1hides,999worth");
-        for (int pence : new int[] {0, 1, 2, 500, 998, 999}) {
-            one.allows("30: no less than a sum, " + pence, pence, x -> x.raised(pence));
+        for (int pence = 0; pence <= 999; pence++) {
+            int p = pence;
+            one.allows("30: no less than a sum, " + p, p, x -> x.raised(p));
         }
         one.allows("30: -2 if 1,000 don't do", -2, x -> x.raised(1000));
         Scene rated = one.with(x -> Scene.yes(x.rates(100, 0, 0, 100)));
