@@ -903,6 +903,9 @@ public final class KingdomSurvey {
 
     /** The fewest claims of a village that must fall, as they were chosen last. */
     private static final class FewestFall {
+        /** More than the hides of all claims that can be looked at together. */
+        private static final int MORE_THAN_ALL = 1000000;
+
         private final int[] claims = new int[FALL_CLAIMS];
         private final int[] hides = new int[FALL_CLAIMS];
         private final int[] chosen = new int[FALL_CLAIMS];
@@ -963,7 +966,7 @@ public final class KingdomSurvey {
         /** Earlier claims have higher bits, so that of sets of one size the first by numbers is met first. */
         private int bestSet(int many, int excess) {
             int best = 0;
-            int least = Integer.MAX_VALUE;
+            int least = MORE_THAN_ALL;
             for (int set = (1 << claimCount) - 1; set > 0; set--) {
                 if (Integer.bitCount(set) == many) {
                     int gone = hidesOfSet(set);

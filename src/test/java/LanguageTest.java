@@ -8,6 +8,9 @@ import java.nio.file.Path;
 import java.util.ArrayList;
 import java.util.Arrays;
 import java.util.List;
+import java.util.Map;
+import java.util.Set;
+import java.util.TreeMap;
 import java.util.TreeSet;
 import java.util.regex.Matcher;
 import java.util.regex.Pattern;
@@ -26,6 +29,11 @@ public final class LanguageTest {
         "throw", "throws", "try", "catch", "synchronized", "assert", "import", "package", "System", "Object", "Exception",
         "hashCode", "toString", "Random", "Thread", "native", "volatile", "transient", "strictfp", "super", "protected"};
 
+    private static final List<String> LIBRARY = List.of("Math.min", "Math.max", "Math.abs", "Integer.bitCount");
+    private static final List<String> LIBRARY_METHODS = List.of("min", "max", "abs", "bitCount", "length", "charAt");
+    /** Calls that stand open at once, the one on the face among them. */
+    private static final int DEEPEST = 8;
+
     private static int failures = 0;
 
     public static void main(String[] args) throws IOException {
@@ -34,7 +42,10 @@ public final class LanguageTest {
         face();
         classes();
         words(code);
+        library(code);
         methods(code);
+        callsGoNoDeeper(code);
+        newRowsInFieldsAlone(code);
         signs(source);
         System.out.println(failures == 0 ? "the class keeps to the language" : failures + " rules are broken");
         if (failures != 0) {
@@ -105,10 +116,64 @@ public final class LanguageTest {
             check(!Pattern.compile("\\b" + word + "\\b").matcher(code).find(), "4, 6, 13: " + word);
         }
         check(!code.contains("->") && !code.contains("::"), "2: no lambda, no method reference");
-        Matcher library = Pattern.compile("\\b(Math|Integer|Long)\\.(\\w+)").matcher(code);
-        List<String> known = List.of("Math.min", "Math.max", "Math.abs", "Integer.bitCount", "Integer.MAX_VALUE");
-        while (library.find()) {
-            check(known.contains(library.group()), "4: " + library.group());
+    }
+
+    /** Rule 4 lists functions of Integer, Long and Math alone, none of their constants; all else is called on own classes. */
+    private static void library(String code) {
+        Matcher members = Pattern.compile("\\b([A-Z]\\w*[a-z]\\w*)\\.(\\w+)").matcher(code);
+        while (members.find()) {
+            check(isOwnClass(members.group(1)) || LIBRARY.contains(members.group()), "4: " + members.group());
+        }
+        Set<String> own = bodies(code).keySet();
+        Matcher calls = Pattern.compile("\\.\\s*(\\w+)\\(").matcher(code);
+        while (calls.find()) {
+            check(own.contains(calls.group(1)) || LIBRARY_METHODS.contains(calls.group(1)), "4: " + calls.group());
+        }
+    }
+
+    private static boolean isOwnClass(String name) {
+        for (Class<?> c : KingdomSurvey.class.getDeclaredClasses()) {
+            if (c.getSimpleName().equals(name)) {
+                return true;
+            }
+        }
+        return false;
+    }
+
+    /** By names: methods of one name in several classes count as one, so no way through them is overlooked. */
+    private static Map<String, String> bodies(String code) {
+        Map<String, String> bodies = new TreeMap<>();
+        Matcher method = Pattern.compile("(?ms)^( {4}| {8})(?:public|private) (?:static )?[\\w\\[\\]]+ (\\w+)\\([^)]*\\) \\{$(.*?)^\\1\\}$").matcher(code);
+        while (method.find()) {
+            bodies.merge(method.group(2), method.group(3), String::concat);
+        }
+        return bodies;
+    }
+
+    private static void callsGoNoDeeper(String code) {
+        Map<String, String> bodies = bodies(code);
+        for (String call : FACE) {
+            String name = call.substring(call.indexOf(' ') + 1, call.indexOf('('));
+            check(bodies.containsKey(name), "11: the test doesn't find the lines of " + name);
+            check(depth(bodies, name, 1) <= DEEPEST, "8, 11: calls under " + name + " go deeper than " + DEEPEST + ", or in a circle");
+        }
+    }
+
+    private static int depth(Map<String, String> bodies, String name, int open) {
+        int deepest = open;
+        Matcher calls = Pattern.compile("\\b(\\w+)\\(").matcher(bodies.get(name));
+        while (open <= DEEPEST && calls.find()) {
+            if (bodies.containsKey(calls.group(1))) {
+                deepest = Math.max(deepest, depth(bodies, calls.group(1), open + 1));
+            }
+        }
+        return deepest;
+    }
+
+    /** So that no call makes an object, however often it comes. */
+    private static void newRowsInFieldsAlone(String code) {
+        for (String line : code.split("\n")) {
+            check(!line.matches(".*\\bnew\\b.*") || line.matches(" {4}( {4})?private final \\S+ \\w+ = new .*;"), "12: " + line.trim());
         }
     }
 
